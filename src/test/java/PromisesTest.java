@@ -285,6 +285,10 @@ public final class PromisesTest {
         DUE.is("behind it", x.spend(0, 1), -5);
         DUE.is("spent", x.count(3), 200);
         DUE.is("FEES", x.count(4), 1 + 0 + 0 + 1);
+        VoucherOffice y = new VoucherOffice();
+        y.issue(STAFF, 9);
+        DUE.is("all of it, without FEE", y.spend(0, 9), 0);
+        DUE.is("was spent from today, with nothing LEFT, too", y.spend(0, 1), -6);
     }
 
     private static void spendOfCrest() {
