@@ -6,7 +6,8 @@ import java.util.Random;
  */
 public final class ModelTest {
     private static final int RUNS = 2000;
-    private static final int CALLS = 512;
+    // With the seven counts at its end a run has the 512 calls for which answers are promised.
+    private static final int CALLS = 505;
     private static final int[] ODD = {Integer.MIN_VALUE, -1, 0, 8, 40, 1000, 1001, 20000, 20001, 100000, 100001,
         Integer.MAX_VALUE};
 

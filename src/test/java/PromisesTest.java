@@ -1,15 +1,5 @@
 /** Each promise by its ordinary answers, its edges and its refusals, reckoned by hand from the document. */
-public final class PromisesTest {
-    private static final int PLAIN = 0;
-    private static final int GIFT = 1;
-    private static final int SEASON = 2;
-    private static final int STAFF = 3;
-    private static final int ROUND = 4;
-    private static final int CLUB = 5;
-    private static final int HOUSE = 6;
-    private static final int CREST = 7;
-    private static final int LOW = Integer.MIN_VALUE;
-    private static final int HIGH = Integer.MAX_VALUE;
+public final class PromisesTest implements Kinds {
     private static final Due DUE = new Due();
 
     public static void main(String[] args) {
